@@ -308,20 +308,31 @@ public final class TicketsDrawn {
             return ((1 << size) - 1) << first;
         }
 
-        private static int bestFirstSeat(int free, int size) {
-            int best = NONE;
-            int fewest = 0;
-            for (int first = 0; first + size <= MOST_SEATS; first++) {
-                int bits = bitsOf(first, size);
-                if ((free & bits) == bits) {
-                    int holes = holesIn(free & ~bits);
-                    if (best == NONE || holes < fewest) {
-                        best = first;
-                        fewest = holes;
-                    }
-                }
+        /** The first seats of all blocks in a row, as bits. */
+        private static int startsIn(int free, int size) {
+            int starts = free;
+            for (int k = 1; k < size; k++) {
+                starts &= free >> k;
             }
-            return best;
+            return starts;
+        }
+
+        /** Of the blocks with these starts the best: 100 times (its holes more + 1), and its start. */
+        private static int bestStart(int free, int size, int starts) {
+            // A free seat beside the block is left alone if the one behind it is not free.
+            int leavesLeft = free << 1 & ~(free << 2);
+            int leavesRight = free >> size & ~(free >> size + 1);
+            int leavesNone = starts & ~leavesLeft & ~leavesRight;
+            int fillsHole = size == 1 ? starts & ~(free << 1) & ~(free >> 1) : 0;
+            if (fillsHole != 0) {
+                return Integer.numberOfTrailingZeros(fillsHole);
+            }
+            if (leavesNone != 0) {
+                return ROW_STEP + Integer.numberOfTrailingZeros(leavesNone);
+            }
+            // Where two seats or more were left over, a block at the edge would leave no hole:
+            // so just one is left over here, and every block leaves that one.
+            return 2 * ROW_STEP + Integer.numberOfTrailingZeros(starts);
         }
 
         private int bestBlock(int[] free, int size, int most) {
@@ -329,14 +340,15 @@ public final class TicketsDrawn {
             int bestFirst = NONE;
             int fewest = 0;
             for (int r = 0; r < count; r++) {
-                int first = price[r] <= most ? bestFirstSeat(free[r], size) : NONE;
-                if (first != NONE) {
-                    int made = holesIn(free[r] & ~bitsOf(first, size)) - holesIn(free[r]);
-                    if (bestRow == NONE || made < fewest
-                        || (made == fewest && price[r] < price[bestRow])) {
+                int starts = price[r] <= most ? startsIn(free[r], size) : 0;
+                if (starts != 0) {
+                    int found = bestStart(free[r], size, starts);
+                    int holes = found / ROW_STEP;
+                    if (bestRow == NONE || holes < fewest
+                        || (holes == fewest && price[r] < price[bestRow])) {
                         bestRow = r;
-                        bestFirst = first;
-                        fewest = made;
+                        bestFirst = found % ROW_STEP;
+                        fewest = holes;
                     }
                 }
             }

@@ -452,6 +452,13 @@ public final class PromisesTest {
         faultDue("part none;", 1, 5);
         faultDue("if days<3 none;", 1, 10);
         faultDue("none;if", 1, 7);
+        // As many tokens as the tape can have.
+        faultDue(times(";", 300), 1, 0);
+        faultDue(times("none;", 60), 3, 60);
+        faultDue(times("9", 300), 1, 0);
+        faultDue(times("a", 300), 1, 0);
+        faultDue(times(" ", 296) + "none", 1, 300);
+        faultDue("if " + times("row=1 and ", 29) + "row=1:", 1, 299);
         // A fault of the text counts before those that stand earlier.
         faultDue("part 101;part", 1, 13);
         faultDue(times("none;", 13) + "?", 1, 65);
@@ -597,7 +604,6 @@ public final class PromisesTest {
         due("18: seat -1", NONE, x.at(0, -1));
         due("18: row 1", NONE, x.at(1, 0));
         due("18: row -1", NONE, x.at(-1, 0));
-        due("18: seat 100 is no row 1", NONE, x.at(0, 100));
         due("20: k 1", 1, x.seats(0, 1));
         due("20: k 2", NONE, x.seats(0, 2));
         due("20: k -1", NONE, x.seats(0, -1));
@@ -622,6 +628,10 @@ public final class PromisesTest {
             due("21: of -1, " + what, NONE, y.about(-1, what));
         }
         due("21: what -1", NONE, y.about(1, -1));
+        due("18: row 1, seat 0", 0, y.at(1, 0));
+        due("18: seat 100 is not row 1", NONE, y.at(0, 100));
+        due("18: seat -100 is not row 1", NONE, y.at(2, -100));
+        due("18: row 1, seat 4", NONE, y.at(1, 4));
         y.back(0, 2);
         due("21: two and one are free", 3, y.about(1, 2));
         due("21: one is alone", 1, y.about(1, 3));
@@ -648,6 +658,33 @@ public final class PromisesTest {
             due("22: then, " + what, then[what], x.count(what));
         }
         due("22: -1", NONE, x.count(-1));
+    }
+
+    /** An image is of what rows and asks were like, too. */
+    private static void otherRowsAndAsks(TicketsDrawn x) {
+        x.image(1);
+        TicketsDrawn y = new TicketsDrawn();
+        y.row(3, 7);
+        y.ask(2, 9, 456, true);
+        y.image(0);
+        y.ask(1, 8, 123, false);
+        y.row(5, 6);
+        y.seat(2, 0);
+        y.image(1);
+        y.again(0);
+        y.row(1, 1);
+        y.ask(6, 1, 1, true);
+        y.seat(1, 0);
+        y.again(1);
+        int[] rows = {3, 7, 3, 0, 5, 6, 2, 0};
+        for (int k = 0; k < 8; k++) {
+            due("24: of rows, " + k, rows[k], k < 4 ? y.about(0, k) : y.about(1, k - 4));
+        }
+        int[] asks = {2, 9, 456, 1, 2, 12, 0, NONE, 1, 8, 123, 0, 1, 6, 0, NONE};
+        for (int k = 0; k < 16; k++) {
+            due("24: of asks, " + k, asks[k], y.tell(k / 8, k % 8));
+        }
+        x.again(1);
     }
 
     private static void images() {
@@ -694,6 +731,7 @@ public final class PromisesTest {
         x.back(1, 1);
         due("24: once more", true, x.again(2));
         due("24: an image does not change with what comes", 1, x.at(0, 1));
+        otherRowsAndAsks(x);
         x.clear();
         due("23: over the old one", true, x.image(2));
         x.seat(1, 0);
