@@ -1,3 +1,5 @@
+import java.util.List;
+
 /** Counts what a test asks, prints what is not as due, and ends the test. */
 final class Check {
     private static int asked = 0;
@@ -15,6 +17,18 @@ final class Check {
 
     static void due(String what, boolean want, boolean got) {
         due(what, want ? 1 : 0, got ? 1 : 0);
+    }
+
+    /** Two objects' tellings: the first line in which they are not alike is printed. */
+    static void same(String what, List<String> want, List<String> got) {
+        int at = 0;
+        while (at < want.size() && at < got.size() && want.get(at).equals(got.get(at))) {
+            at++;
+        }
+        boolean alike = at == want.size() && at == got.size();
+        String due = at < want.size() ? want.get(at) : "no more";
+        String told = at < got.size() ? got.get(at) : "no more";
+        due(alike ? what : what + ": told " + told + ", where due is " + due, true, alike);
     }
 
     static int wrongSoFar() {
