@@ -859,12 +859,8 @@ public final class TicketsDrawn {
         void cutUp(Tape tape) {
             many = 0;
             int from = 0;
-            while (from < tape.length) {
-                int behind = from + 1;
-                if (!isBlank(tape.bytes[from])) {
-                    behind = cutOne(tape, from);
-                }
-                from = behind;
+            for (int k = 0; k < MOST_BYTES && from < tape.length; k++) {
+                from = isBlank(tape.bytes[from]) ? from + 1 : cutOne(tape, from);
             }
             put(THE_END, 0, tape.length);
         }

@@ -39,6 +39,8 @@ public final class EdgesOfCallsTest {
         image();
         again();
         imagesOfFullObjects();
+        imagesOfObjectsUnlikeInAll();
+        whatImagesDoThen();
         Check.finish("EdgesOfCallsTest");
     }
 
@@ -228,6 +230,8 @@ public final class EdgesOfCallsTest {
         due("7: two SEATS for six", 240, x.share(0));
         due("7: a refused ROW changes nothing", NONE, x.row(0, 10));
         due("7: two SEATS for six, still", 240, x.share(5));
+        x.again(0);
+        due("7: one SEAT for six again", 120, x.share(5));
     }
 
     /** Promise 8: "The ASK whose TURN comes at a place, by a number. NONE: there is none such (of either)." */
@@ -755,5 +759,113 @@ public final class EdgesOfCallsTest {
         due("24: once more", true, x.again(2));
         due("24: five have come back", 6, x.tell(2, 4));
         due("24: no free SEAT", 0, x.count(4));
+    }
+
+    private static final String NEVER = "if row>5:none;".repeat(11);
+
+    /** All seats are taken from the last ask to the first; money both ways, doors in all rows. */
+    private static void one(TicketsDrawn x) {
+        for (int k = 0; k < 12; k++) {
+            x.ask(6, 999, 999 - k, k % 2 == 0);
+        }
+        for (int k = 0; k < 6; k++) {
+            x.row(12, 999 - k);
+        }
+        Check.terms(x, NEVER + "if back=1 and back<2 and back>0 and back=1:part 77;");
+        x.seat(0, 479001599);
+        x.back(11, 1);
+        x.days(0);
+        for (int row = 0; row < 6; row++) {
+            x.door(row, 1);
+        }
+        Check.terms(x, "part 999;");
+        Check.feed(x, "whole;".repeat(12) + " ".repeat(222) + "none ;", 0);
+    }
+
+    /** All are in line, the odd ones first. */
+    private static void other(TicketsDrawn x) {
+        for (int k = 0; k < 12; k++) {
+            x.ask(6 - k % 6, k % 2, k, k % 2 == 1);
+        }
+        for (int k = 0; k < 6; k++) {
+            x.row(2 + k, 2 + k);
+        }
+        Check.terms(x, "if row<1:whole;".repeat(11) + "if not size>2and not size>2and not size>2and not size>2:whole;");
+        x.seat(2, 0);
+        x.days(3);
+        Check.terms(x, "part 50; part 50");
+        Check.feed(x, "#".repeat(300), 0);
+    }
+
+    /** All were in line, in another order; now all sit, from the first on. */
+    private static void third(TicketsDrawn x) {
+        for (int k = 0; k < 12; k++) {
+            x.ask(5, 10, 80 * k, k % 2 == 1);
+        }
+        x.seat(1, 0);
+        x.clear();
+        for (int k = 0; k < 6; k++) {
+            x.row(11, 1 + k);
+        }
+        Check.terms(x, "none;".repeat(11) + "if not size>2and not size>2and not size>2and not size>2:whole;");
+        x.seat(1, 0);
+        Check.feed(x, "a".repeat(299), 0);
+    }
+
+    /** Image 1 has the one, 2 the other, 0 the third; k is the last of them that comes again. */
+    private static TicketsDrawn allThree(int k) {
+        TicketsDrawn x = new TicketsDrawn();
+        x.image(0);
+        one(x);
+        x.image(1);
+        x.again(0);
+        other(x);
+        x.image(2);
+        x.again(0);
+        third(x);
+        x.image(0);
+        x.again((k + 1) % 3);
+        x.again((k + 2) % 3);
+        due("24: one of three, " + k, true, x.again(k));
+        return x;
+    }
+
+    /** Three objects that are unlike in all that is told: again() leaves nothing of what was. */
+    private static void imagesOfObjectsUnlikeInAll() {
+        TicketsDrawn a = new TicketsDrawn();
+        third(a);
+        Check.same("24: the third", Told.looked(a), Told.looked(allThree(0)));
+        TicketsDrawn b = new TicketsDrawn();
+        one(b);
+        Check.same("24: the one", Told.looked(b), Told.looked(allThree(1)));
+        TicketsDrawn c = new TicketsDrawn();
+        other(c);
+        Check.same("24: the other", Told.looked(c), Told.looked(allThree(2)));
+    }
+
+    private static void whatImagesDoThen() {
+        TicketsDrawn x = allThree(1);
+        due("24: the one's DOORS", 6, x.count(9));
+        for (int ask = 0; ask < 12; ask++) {
+            // Ask 11 sits on row 5 from seat 0 on, and gave one back; ask 10 beside it; and so on.
+            int price = 994 + (11 - ask) / 2;
+            int before = ask == 11 ? 994 * 77 / 100 : 0;
+            due("24: the one, before of " + ask, before, x.tell(ask, 6));
+            due("24: the one, back of " + ask, 0, x.back(ask, 1));
+            due("24: the one, REFUND of " + ask, before + price * 77 / 100, x.tell(ask, 6));
+        }
+        due("24: a DOOR is in the way", NONE, x.back(11, 3));
+        due("24: no DOOR is in the way", 0, x.back(10, 5));
+        due("24: the one's tape, a 13th LINE", NONE, x.terms());
+        due("24: the one's tape to its end", 3294, 1000 * x.fault(0) + x.fault(1));
+        TicketsDrawn y = allThree(2);
+        due("24: the other's tape", NONE, y.terms());
+        due("24: the other's tape at its beginning", 1000, 1000 * y.fault(0) + y.fault(1));
+        due("24: the other's LINE, the first", 0, y.tell(1, 7));
+        due("24: the other's LINE, the last", 11, y.tell(10, 7));
+        TicketsDrawn z = allThree(0);
+        due("24: the third's TERMS", 0, z.back(0, 1));
+        due("24: nothing", 0, z.tell(0, 6));
+        due("24: the third's tape", 299, z.end(299));
     }
 }

@@ -23,6 +23,7 @@ public final class EdgesOfTermsTest {
         blocksPastTakenSeats();
         theBlockByHoles();
         theBlockByHolesLessThoseBefore();
+        theBlockBesideHoles();
         theBlockAmongEqualHoles();
         turnsOfParted();
         numbersOfTurns();
@@ -258,11 +259,16 @@ public final class EdgesOfTermsTest {
         x.seat(1, 0);
         due("THE BLOCK: no HOLE goes before the least PRICE", 100, x.seats(0, 0));
         TicketsDrawn y = new TicketsDrawn();
-        y.row(2, 10);
+        y.row(3, 10);
+        y.row(2, 9);
         y.row(1, 999);
         y.ask(1, 999, 0, false);
+        y.ask(1, 999, 0, false);
+        y.ask(1, 999, 0, false);
         y.seat(1, 0);
-        due("THE BLOCK: a HOLE less goes before the least PRICE", 100, y.seats(0, 0));
+        due("THE BLOCK: a HOLE less goes before no HOLE more and the least PRICE", 200, y.seats(0, 0));
+        due("THE BLOCK: no HOLE more goes before one more and the least PRICE", 0, y.seats(1, 0));
+        due("THE BLOCK: one HOLE more, of two, the least PRICE", 100, y.seats(2, 0));
         TicketsDrawn z = new TicketsDrawn();
         z.row(7, 10);
         z.ask(2, 10, 0, false);
@@ -292,6 +298,27 @@ public final class EdgesOfTermsTest {
         due("THE BLOCK: three beside two HOLES, and four", 1, x.back(6, 5));
         due("THE BLOCK: no HOLE more in ROW 0, one more in ROW 1", 4, x.seats(7, 0));
         due("THE BLOCK: the two HOLES are left", 2, x.about(0, 3));
+    }
+
+    /** A free SEAT behind one that is taken is not next to the BLOCK: 1 or 3 of four is left alone either way. */
+    private static void theBlockBesideHoles() {
+        TicketsDrawn x = Halls.of(1, 5, 2, 1);
+        x.ask(3, 10, 0, false);
+        x.ask(2, 10, 0, false);
+        x.seat(1, 0);
+        due("THE BLOCK: SEAT 0 is a HOLE", 0, x.back(0, 1));
+        due("THE BLOCK: 2, 3, 4 are free, too", 1, x.back(2, 3));
+        due("THE BLOCK: one HOLE more either way, the least SEAT", 2, x.seats(3, 0));
+        TicketsDrawn y = new TicketsDrawn();
+        y.row(5, 10);
+        y.ask(3, 10, 0, false);
+        y.ask(1, 10, 0, false);
+        y.ask(1, 10, 0, false);
+        y.ask(2, 10, 0, false);
+        y.seat(1, 0);
+        due("THE BLOCK: the last SEAT is a HOLE", 0, y.back(2, 1));
+        due("THE BLOCK: 0, 1, 2 are free, too", 1, y.back(0, 3));
+        due("THE BLOCK: one HOLE more either way, SEAT 0", 0, y.seats(3, 0));
     }
 
     /** "of several that with the least PRICE; then of the least ROW; then of the least SEAT" */
@@ -344,6 +371,8 @@ public final class EdgesOfTermsTest {
         for (int k = 0; k < 4; k++) {
             due("TURN: one after the other on THE BLOCK for one, " + k, took[k], x.seats(0, k));
         }
+        due("TURN: four and no more", 2, x.count(4));
+        due("TURN: PAID for four", 40, x.tell(0, 5));
         TicketsDrawn y = Halls.of(1, 3, 0, 1);
         y.ask(3, 10, 0, true);
         y.seat(1, 0);

@@ -352,11 +352,15 @@ public final class EdgesOfTextTest {
             "if size=6:none;whole;", "if size=6 and row=1:none;part 8;", "if row=1 and size=6:none;part 8;",
             "if size=6 and row=0 and back=1 and days=30:part 3;none;",
             "if size=6 and row=0 and back=1 and days=29:part 3;none;",
-            "if size=1:none;".repeat(11) + "part 9;", "if size=1:none;".repeat(12)};
-        int[] refunds = {100, 100, 0, 7, 0, 100, 100, 0, 8, 8, 3, 0, 9, 100};
+            "if size=1:none;".repeat(11) + "part 9;", "if size=1:none;".repeat(12),
+            "if size=1:none;".repeat(11) + "if size=6 and row=0 and back=1 and days=30:part 4;",
+            "if size=6 and row=0 and back=1 and days=29:none;if size=6 and row=0 and back=1 and days=30:part 5;",
+            "if size=6 and row=0 and back=1 and days=29:none;if size=5 and row=0 and back=1 and days=30:part 5;"};
+        int[] refunds = {100, 100, 0, 7, 0, 100, 100, 0, 8, 8, 3, 0, 9, 100, 4, 5, 100};
         for (int k = 0; k < texts.length; k++) {
             due("REFUND by " + texts[k], refunds[k], refund(texts[k], 30, 100, 6, 0, 1));
         }
+        termsAfterTerms();
         TicketsDrawn x = Halls.of(1, 6, 1, 6);
         Check.terms(x, "part 50;");
         x.seat(1, 0);
@@ -375,5 +379,23 @@ public final class EdgesOfTextTest {
         x.seat(1, 0);
         x.back(0, 6);
         due("REFUND: TERMS stay through clear()", 18, x.tell(0, 6));
+    }
+
+    /** TESTS of a text before, with or without a FAULT, are none of the next one's. */
+    private static void termsAfterTerms() {
+        String before = "if row>5:none;".repeat(11);
+        String[] firsts = {"if size=1:none;", "if size=1 and row=1 and row=2 and row=3:none;", before + "if size=1:none;",
+            "if size=1 and row=1", before + "if size=1:none;part 5;"};
+        for (String first : firsts) {
+            TicketsDrawn x = Halls.of(1, 6, 1, 6);
+            x.seat(1, 0);
+            Check.terms(x, first);
+            due("one LINE behind " + first, 1, Check.terms(x, "part 10;"));
+            x.back(0, 1);
+            due("it holds behind " + first, 1, x.tell(0, 6));
+            due("twelve LINES behind " + first, 12, Check.terms(x, before + "part 20;"));
+            x.back(0, 1);
+            due("the last holds behind " + first, 3, x.tell(0, 6));
+        }
     }
 }

@@ -240,6 +240,12 @@ public final class EmptyAndFullTest {
             due("full, all DOORS: nothing back of " + ask, NONE, x.back(ask, 1));
             due("full, all DOORS: none opens again for " + ask, false, x.door(ask / 2, ask));
         }
+        x.clear();
+        due("full, cleared: no DOORS", 0, x.count(9));
+        x.seat(1, 0);
+        for (int ask = 0; ask < 12; ask++) {
+            due("full, SEATED anew: all may be GIVEN BACK by " + ask, 0, x.back(ask, 6));
+        }
     }
 
     /** Promise 5: before seat() and after clear() one thing is told, but for what clear() does not name. */
