@@ -800,12 +800,12 @@ public final class EdgesOfCallsTest {
     /** All were in line, in another order; now all sit, from the first on. */
     private static void third(TicketsDrawn x) {
         for (int k = 0; k < 12; k++) {
-            x.ask(5, 10, 80 * k, k % 2 == 1);
+            x.ask(6, 10, 80 * k, k % 2 == 1);
         }
         x.seat(1, 0);
         x.clear();
         for (int k = 0; k < 6; k++) {
-            x.row(11, 1 + k);
+            x.row(12, 1 + k);
         }
         Check.terms(x, "none;".repeat(11) + "if not size>2and not size>2and not size>2and not size>2:whole;");
         x.seat(1, 0);

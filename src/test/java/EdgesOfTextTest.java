@@ -354,9 +354,10 @@ public final class EdgesOfTextTest {
             "if size=6 and row=0 and back=1 and days=29:part 3;none;",
             "if size=1:none;".repeat(11) + "part 9;", "if size=1:none;".repeat(12),
             "if size=1:none;".repeat(11) + "if size=6 and row=0 and back=1 and days=30:part 4;",
+            "if size=1:none;".repeat(11) + "if not size=1 and not row=1 and not back=2 and not days=29:part 6;",
             "if size=6 and row=0 and back=1 and days=29:none;if size=6 and row=0 and back=1 and days=30:part 5;",
             "if size=6 and row=0 and back=1 and days=29:none;if size=5 and row=0 and back=1 and days=30:part 5;"};
-        int[] refunds = {100, 100, 0, 7, 0, 100, 100, 0, 8, 8, 3, 0, 9, 100, 4, 5, 100};
+        int[] refunds = {100, 100, 0, 7, 0, 100, 100, 0, 8, 8, 3, 0, 9, 100, 4, 6, 5, 100};
         for (int k = 0; k < texts.length; k++) {
             due("REFUND by " + texts[k], refunds[k], refund(texts[k], 30, 100, 6, 0, 1));
         }
