@@ -17,6 +17,7 @@ public final class EdgesOfTextTest {
         bytesOfNumbers();
         everyByte();
         everyTokenAtEveryPlace();
+        wordsUnlikeInOneLetter();
         endsOfTexts();
         numbersInTests();
         numbersBehindPart();
@@ -151,6 +152,26 @@ public final class EdgesOfTextTest {
             String text = before + token + " #";
             int place = goOn.contains(token) ? text.length() - 1 : before.length();
             refused(text, 1, place);
+        }
+    }
+
+    /** A WORD with another letter at any place, one less or one more, is no WORD of a text. */
+    private static void wordsUnlikeInOneLetter() {
+        String[][] words = {{"", "if"}, {"if days<3 ", "and"}, {"if ", "not"}, {"", "part"}, {"", "whole"}, {"", "none"},
+            {"if ", "days"}, {"if ", "price"}, {"if ", "size"}, {"if ", "row"}, {"if ", "back"}};
+        for (String[] one : words) {
+            String word = one[1];
+            refused(one[0] + word, 1, one[0].length() + word.length());
+            for (int k = 0; k < word.length(); k++) {
+                for (char c = 'a'; c <= 'z'; c++) {
+                    String other = word.substring(0, k) + c + word.substring(k + 1);
+                    boolean itself = other.equals(word);
+                    refused(one[0] + other, 1, one[0].length() + (itself ? word.length() : 0));
+                }
+                refused(one[0] + word.substring(0, k) + word.substring(k + 1), 1, one[0].length());
+                refused(one[0] + word.substring(0, k) + "e" + word.substring(k), 1, one[0].length());
+            }
+            refused(one[0] + word + "s", 1, one[0].length());
         }
     }
 
