@@ -19,6 +19,14 @@ final class Check {
         due(what, want ? 1 : 0, got ? 1 : 0);
     }
 
+    static void due(String what, String want, String got) {
+        asked++;
+        if (!want.equals(got)) {
+            wrong++;
+            System.out.println(what + ": told " + got + ", due is " + want);
+        }
+    }
+
     /** Two objects' tellings: the first line in which they are not alike is printed. */
     static void same(String what, List<String> want, List<String> got) {
         int at = 0;

@@ -1,5 +1,9 @@
 import java.util.ArrayList;
+import java.util.LinkedHashMap;
+import java.util.LinkedHashSet;
 import java.util.List;
+import java.util.Map;
+import java.util.Set;
 
 /**
  * What an object tells, a line a call, so that two objects can be held against one another. Looking at a
@@ -31,6 +35,33 @@ final class Told {
         told.turns();
         told.put("the tape's length", lengthOfTape(x));
         return told.lines;
+    }
+
+    /** What is told otherwise after a call than before it: "count(8) 30>7"; '-' where it was not told. */
+    static String changed(TicketsDrawn x, Runnable call) {
+        Map<String, String> before = answers(looked(x));
+        call.run();
+        Map<String, String> after = answers(looked(x));
+        Set<String> asked = new LinkedHashSet<>(before.keySet());
+        asked.addAll(after.keySet());
+        List<String> changes = new ArrayList<>();
+        for (String one : asked) {
+            String was = before.getOrDefault(one, "-");
+            String is = after.getOrDefault(one, "-");
+            if (!was.equals(is)) {
+                changes.add(one + " " + was + ">" + is);
+            }
+        }
+        return String.join("; ", changes);
+    }
+
+    private static Map<String, String> answers(List<String> lines) {
+        Map<String, String> answers = new LinkedHashMap<>();
+        for (String line : lines) {
+            int equals = line.indexOf(" = ");
+            answers.put(line.substring(0, equals), line.substring(equals + 3));
+        }
+        return answers;
     }
 
     /** What it does then: its terms, its tape, its images; the object is used up by this. */
