@@ -464,7 +464,8 @@ public final class TicketsDrawn {
 
         /** False, where there are no asks, no such way, or no such number of turns. */
         boolean arrange(Asks all, int way, int t) {
-            if (all.count < 1 || way < DRAWN || way > PAYS_MOST) {
+            boolean isWay = way == DRAWN || way == FIRST_COME || way == PAYS_MOST;
+            if (all.count < 1 || !isWay) {
                 return false;
             }
             if (way == DRAWN && (t < 0 || t >= FACTORIALS[all.count])) {

@@ -1,3 +1,4 @@
+import java.util.List;
 import java.util.function.IntUnaryOperator;
 
 /** The document from promise 1 to its last line: each sentence quoted, what it answers and all that it changes. */
@@ -368,6 +369,14 @@ public final class DocumentPromisesTest {
         due("others come behind those", 2, x.terms());
         due("none", 0, x.end(0));
 
+        for (String text : new String[] {"none|x", "part 100|0", "part|s", "if row<1|1:none;"}) {
+            int cut = text.indexOf('|');
+            Check.feed(x, text.replace("|", ""), 0);
+            x.end(cut);
+            due("a FAULT of " + text, NONE, x.terms());
+            due("no byte behind it counts, " + text, cut, x.fault(1));
+        }
+
         says("NONE if it has not so many, or n is below 0.");
         Check.feed(x, "none;", 0);
         changes("not so many", x, () -> none("n", x::end, 6, 20, 300, 301, HIGH, -1, LOW));
@@ -611,6 +620,7 @@ public final class DocumentPromisesTest {
             Check.same("image " + k + " is all that is told", Told.looked(Halls.amidst()), Told.looked(y));
             due("the tape's text, by image " + k, 1, taken(y));
         }
+        imagesOfUnlike();
         TicketsDrawn unlike = new TicketsDrawn();
         for (int k = 0; k < 3; k++) {
             unlike.row(1 + k, 1);
@@ -625,6 +635,54 @@ public final class DocumentPromisesTest {
         unlike.again(1);
         unlike.again(0);
         due("the latest of its number", 3, unlike.count(0));
+    }
+
+    /** Of two objects in one: what is told of each by its image is what is told of one that never was the other. */
+    private void imagesOfUnlike() {
+        TicketsDrawn x = new TicketsDrawn();
+        x.image(2);
+        seatOneKind(x);
+        x.image(0);
+        x.again(2);
+        seatOtherKind(x);
+        x.image(1);
+        x.share(0);
+        x.again(0);
+        TicketsDrawn one = new TicketsDrawn();
+        seatOneKind(one);
+        due("one kind", "aa..|bb|c", Brief.seen(one));
+        Check.same("image 0, of one kind", Told.looked(one), Told.looked(x));
+        x.share(0);
+        x.again(1);
+        TicketsDrawn other = new TicketsDrawn();
+        seatOtherKind(other);
+        due("another", "b..dd|...|a", Brief.seen(other));
+        Check.same("image 1, of another", Told.looked(other), Told.looked(x));
+        Check.same("image 1, used up", usedUpButImages(other), usedUpButImages(x));
+    }
+
+    /** The images are not the same: what is told of them is left out. */
+    private static List<String> usedUpButImages(TicketsDrawn x) {
+        return Told.usedUp(x).stream().takeWhile(line -> !line.startsWith("again")).toList();
+    }
+
+    private static void seatOneKind(TicketsDrawn x) {
+        Brief.addRows(x, "4@10 2@20 1@5");
+        Brief.addAsks(x, "4<30p#999 2<20p#456 1<10#124 3<20#123");
+        Check.terms(x, "if back=1:part 10;".repeat(3));
+        x.seat(2, 0);
+        x.back(0, 2);
+    }
+
+    private static void seatOtherKind(TicketsDrawn x) {
+        Brief.addRows(x, "5@9 3@11 1@7");
+        Brief.addAsks(x, "1<7p#777 3<11#778 5<9#123 2<9p#321");
+        Check.terms(x, "if not row=1 and size<4:part 70;none;");
+        Check.feed(x, "none;", 0);
+        x.seat(1, 0);
+        x.days(0);
+        x.door(2, 0);
+        x.back(1, 2);
     }
 
     /** The tape has "part 50": a sign makes a text of it. */

@@ -219,6 +219,11 @@ public final class DocumentTermsTest {
         sits("7@10", "2<10 2<10 1<10", "aabbc..");
         sits("6@10", "3<10 2<10 1<10", "aaabbc");
         sits("5@10", "1<10 1<10 1<10 1<10", "abcd.");
+        // Behind one that is taken a free SEAT is not next to it: 2 or 4 is left as a HOLE.
+        TicketsDrawn behind = Brief.firstCome("5@10", "1<10 1<10 3<10 2<10");
+        behind.back(0, 1);
+        behind.back(2, 3);
+        due("as many either way", ".bdd.", Brief.seen(behind));
 
         says("less those that there were in it before;");
         sits("3@10 1@11", "1<11", "...|a");
@@ -261,6 +266,8 @@ public final class DocumentTermsTest {
         sits("5@10", "6<10p", ".....");
         TicketsDrawn y = Brief.firstCome("2@10 1@12 2@11", "4<12p");
         due("the HOLE, then by PRICE, then the HOLE that this left", "100 0 1 200", Brief.taken(y, 0));
+        due("and no SEAT more", "aa|a|a.", Brief.seen(y));
+        due("one is free", 1, y.count(4));
 
         says("Else it gets nothing.");
         TicketsDrawn z = Brief.firstCome("1@10 1@10 1@99", "3<10p 2<10 1<9");
@@ -310,6 +317,7 @@ public final class DocumentTermsTest {
         // 123456789 by 11!, 10!, ..: 3, 1, 0, 1, 7, 2, 4, 2, 3, 1, 1, 0.
         due("a number of twelve", "dbaelgjhkfic", turns(Brief.hall("", asksAlike(12)), 123456789));
         due("the last of twelve", "lkjihgfedcba", turns(Brief.hall("", asksAlike(12)), 479001599));
+        due("12! of twelve", NONE, Brief.hall("", asksAlike(12)).turn(479001600, 0));
     }
 
     private void order(int way, int t, String want) {
@@ -373,6 +381,12 @@ public final class DocumentTermsTest {
         due("one SEAT for six", 120, six.share(5));
         six.ask(1, 10, 0, false);
         due("of seven it is not told", NONE, six.share(5));
+        TicketsDrawn later = Brief.hall("1@10", "2<10");
+        due("never", 0, later.share(0));
+        later.row(2, 10);
+        due("with a ROW more", 1, later.share(0));
+        later.ask(2, 10, 0, false);
+        due("with an ASK more", 1, later.share(0));
     }
 
     private void alikesAndHeaps() {
@@ -581,6 +595,21 @@ public final class DocumentTermsTest {
         fault(1, 6, "if row:none;");
         fault(1, 7, "if row=row:none;");
         fault(1, 7, "if row=:none;");
+        // Each WORD stands for itself alone.
+        String[] words = {"if", "and", "not", "part", "whole", "none", "days", "price", "size", "row", "back"};
+        for (String word : words) {
+            wordBehind("", word, "if part whole none");
+            wordBehind("if ", word, "not days price size row back");
+            wordBehind("if not ", word, "days price size row back");
+            wordBehind("if row=1 ", word, "and");
+            wordBehind("if row=1:", word, "part whole none");
+            wordBehind("none ", word, "");
+        }
+    }
+
+    private void wordBehind(String begun, String word, String goOn) {
+        boolean goesOn = List.of(goOn.split(" ")).contains(word);
+        fault(1, goesOn ? begun.length() + word.length() : begun.length(), begun + word);
     }
 
     /** One seat of four given back: days 30, price 200, size 4, row 1, and three at once where so told. */
@@ -596,8 +625,10 @@ public final class DocumentTermsTest {
         String[] texts = {"part 7;", "whole;", "none;", "", "if row=0:none;", "if row=0:none;part 9;",
             "if row=1:part 3;part 9;", "if row=1 and days=29:part 3;part 9;", "if row=2 and days=30:part 3;part 9;",
             "if row=1 and days=30 and size=4 and price=200:part 3;", "part 2;part 3;whole;", "if not row=1:none;part 1;",
-            "if not row=0:none;part 1;", "if row=1 and not days>30 and not size<4 and not price=1:part 40;"};
-        int[] refunds = {14, 200, 0, 200, 200, 18, 6, 18, 18, 6, 4, 2, 0, 80};
+            "if not row=0:none;part 1;", "if row=1 and not days>30 and not size<4 and not price=1:part 40;",
+            "if row=0:none;".repeat(11) + "if row<2 and days<31 and size<5 and price>199:part 45;",
+            "if row=0:none;".repeat(11) + "if not row=0 and not days<9 and not size=1 and not price>200:part 35;"};
+        int[] refunds = {14, 200, 0, 200, 200, 18, 6, 18, 18, 6, 4, 2, 0, 80, 90, 70};
         for (int k = 0; k < texts.length; k++) {
             due(texts[k], refunds[k], refund(texts[k], 1));
         }
@@ -636,6 +667,14 @@ public final class DocumentTermsTest {
         fault(1, 5, "none;nine;?");
         fault(1, 5, "part 1000;");
         fault(1, 9, "if days< 12345:none;?");
+        // What would be a text again from there on does not count, nor does a later FAULT.
+        for (String text : new String[] {"if row=1 |none;?", "part |none;?", "part |;?", "if |none;?", "if row=|:none;?",
+            "if row|:none;?", "if row=1:|;?", "none |none;?", "none;|and row=1:none;?"}) {
+            fault(1, text.indexOf('|'), text.replace("|", ""));
+        }
+        fault(1, 0, ";".repeat(300));
+        fault(1, 299, " ".repeat(299) + "?");
+        fault(1, 295, "none;".repeat(59) + ";;;;;");
         says("If there is none, the first of: 2 a NUMBER behind part above 100;");
         taken(1, "part 100;");
         taken(1, "if price>101:none;");
@@ -654,6 +693,7 @@ public final class DocumentTermsTest {
         fault(3, fourTests.length() + 5, fourTests + " and row=1:none;");
         fault(3, fourTests.length() + 5, fourTests + " and not row=1:part 101;");
         taken(2, (fourTests + ":none;").repeat(2));
+        fault(3, 55 + fourTests.length() + 5, "none;".repeat(11) + fourTests + " and row=1:none;");
         fault(1, 65, "none;".repeat(13) + "?");
         fault(1, fourTests.length() + 10, fourTests + " and row=1");
     }
