@@ -7,24 +7,22 @@ import java.util.regex.Matcher;
 import java.util.regex.Pattern;
 
 /** A walk through a part of the document: its words are quoted one after the other, and none is left out. */
-final class Document {
+abstract class Document {
     private static final Path PLACE = Path.of("../shared/DOC.md");
     private static final Pattern SIGNATURE = Pattern.compile("`([^`]*\\))`: (.*)");
 
     private final String words;
     private int at = 0;
-
-    private Document(String words) {
-        this.words = words;
-    }
+    private String quoted = "";
 
     /** The part from one heading on, up to another, that one left out; null: to the end. */
-    static Document part(String from, String to) throws IOException {
+    Document(String from, String to) throws IOException {
         List<String> lines = Files.readAllLines(PLACE);
         int first = lines.indexOf(from);
         int behind = to == null ? lines.size() : lines.indexOf(to);
-        Check.due("the document has " + from + " before " + to, true, first >= 0 && behind > first);
-        return new Document(wordsOf(lines.subList(Math.max(0, first), Math.max(first, behind))));
+        boolean found = first >= 0 && behind > first;
+        Check.due("the document has " + from + " before " + to, true, found);
+        words = found ? wordsOf(lines.subList(first, behind)) : "";
     }
 
     /** Headings, code and the calls' signatures are no sentences. */
@@ -65,15 +63,28 @@ final class Document {
         return found;
     }
 
-    void says(String quote) {
+    final void says(String quote) {
         boolean next = words.startsWith(quote, at);
         String there = words.substring(at, Math.min(words.length(), at + quote.length()));
         Check.due("the document has \"" + there + "\" where it is quoted: " + quote, true, next);
         int found = words.indexOf(quote, at);
         at = Math.min(words.length(), found < 0 ? at : found + quote.length() + 1);
+        quoted = quote;
     }
 
-    void ends() {
-        Check.due("all of the document is quoted", "", words.substring(at));
+    final void allIsQuoted() {
+        Check.due("what is not quoted of the document", "", words.substring(at));
+    }
+
+    final void due(String what, long want, long got) {
+        Check.due(quoted + " " + what, want, got);
+    }
+
+    final void due(String what, boolean want, boolean got) {
+        Check.due(quoted + " " + what, want, got);
+    }
+
+    final void due(String what, String want, String got) {
+        Check.due(quoted + " " + what, want, got);
     }
 }

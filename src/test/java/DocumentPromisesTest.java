@@ -1,22 +1,19 @@
+import java.io.IOException;
 import java.util.List;
 import java.util.function.IntUnaryOperator;
 
 /** The document from promise 1 to its last line: each sentence quoted, what it answers and all that it changes. */
-public final class DocumentPromisesTest {
+public final class DocumentPromisesTest extends Document {
     private static final int NONE = TicketsDrawn.NONE;
     private static final int LOW = Integer.MIN_VALUE;
     private static final int HIGH = Integer.MAX_VALUE;
 
-    private final Document document;
-    private String quoted = "";
-
-    private DocumentPromisesTest(Document document) {
-        this.document = document;
+    private DocumentPromisesTest() throws IOException {
+        super("## Promise 1: A new object", null);
     }
 
     public static void main(String[] args) throws Exception {
-        Document document = Document.part("## Promise 1: A new object", null);
-        DocumentPromisesTest test = new DocumentPromisesTest(document);
+        DocumentPromisesTest test = new DocumentPromisesTest();
         test.newObject();
         test.row();
         test.ask();
@@ -42,25 +39,8 @@ public final class DocumentPromisesTest {
         test.image();
         test.again();
         test.notPromised();
-        document.ends();
+        test.allIsQuoted();
         Check.finish("DocumentPromisesTest");
-    }
-
-    private void says(String quote) {
-        document.says(quote);
-        quoted = quote;
-    }
-
-    private void due(String what, long want, long got) {
-        Check.due(quoted + " " + what, want, got);
-    }
-
-    private void due(String what, boolean want, boolean got) {
-        Check.due(quoted + " " + what, want, got);
-    }
-
-    private void due(String what, String want, String got) {
-        Check.due(quoted + " " + what, want, got);
     }
 
     /** All that is told otherwise after a call, and nothing else. */
@@ -117,7 +97,8 @@ public final class DocumentPromisesTest {
         TicketsDrawn z = Brief.hall("2@10", "3<10");
         changes("a ROW on which an ASK would sit", z, () -> z.row(3, 10), "count(0) 1>2", "count(4) 2>5",
             "share(0) 0>1", "would(0, 0) 0>1", "would(1, 0) 0>1", "would(2, 0) 0>1", "about(1, 0) ->3",
-            "about(1, 1) ->10", "about(1, 2) ->3", "about(1, 3) ->0", "at(1, 0) ->-1", "at(1, 1) ->-1", "at(1, 2) ->-1");
+            "about(1, 1) ->10", "about(1, 2) ->3", "about(1, 3) ->0", "at(1, 0) ->-1", "at(1, 1) ->-1",
+            "at(1, 2) ->-1");
 
         says("NONE: there are 6, other numbers, or all are SEATED.");
         TicketsDrawn full = Halls.of(6, 1, 0, 1);
@@ -331,8 +312,8 @@ public final class DocumentPromisesTest {
         says("The tape: twenty bytes come behind it, of each number the highest first: how many it has.");
         TicketsDrawn x = new TicketsDrawn();
         // "none;part 7;" and blanks, then "whole;" and what is no text.
-        changes("feed()", x, () -> due("twenty", 20, x.feed(0x6e6f6e65, 0x3b706172, 0x7420373b, 0x20202020, 0x2020200a)),
-            "the tape's length 0>20");
+        changes("feed()", x, () -> due("twenty", 20,
+            x.feed(0x6e6f6e65, 0x3b706172, 0x7420373b, 0x20202020, 0x2020200a)), "the tape's length 0>20");
         due("forty", 40, x.feed(0x77686f6c, 0x653b2020, 0x20202020, 0x20202020, 0x2020ff80));
         due("a FAULT", NONE, x.terms());
         due("the byte 255 stands at 38", 38, x.fault(1));
@@ -450,10 +431,12 @@ public final class DocumentPromisesTest {
             none("who has one", n -> x.back(0, n), 2, 3, HIGH);
             none("n", n -> x.back(0, n), 0, -1, LOW);
         });
-        x.days(0);
-        x.door(0, 0);
-        changes("behind a DOOR", x, () -> none("behind a DOOR", n -> x.back(0, n), 1));
-        due("who has no DOOR", 0, x.back(3, 1));
+        TicketsDrawn y = Brief.firstCome("4@10", "3<10 1<10");
+        y.days(0);
+        y.door(0, 1);
+        changes("behind a DOOR", y, () -> none("behind a DOOR", n -> y.back(0, n), 2, 3));
+        due("who has no DOOR", 0, y.back(1, 1));
+        due("what it took later", 0, y.back(0, 1));
         none("not SEATED", n -> Brief.hall("3@10", "3<10").back(0, n), 1, 3);
     }
 
@@ -511,7 +494,8 @@ public final class DocumentPromisesTest {
             + " 5: PAID, 6: REFUNDS, 7: its place in THE LINE (NONE).");
         TicketsDrawn x = Brief.hall("4@10", "3<12p#7 2<10#450 6<999p#999");
         Check.terms(x, "part 33;");
-        int[][] before = {{3, 12, 7, 1, 0, 0, 0, NONE}, {2, 10, 450, 0, 0, 0, 0, NONE}, {6, 999, 999, 1, 0, 0, 0, NONE}};
+        int[][] before = {{3, 12, 7, 1, 0, 0, 0, NONE}, {2, 10, 450, 0, 0, 0, 0, NONE},
+            {6, 999, 999, 1, 0, 0, 0, NONE}};
         int[][] seated = {{3, 12, 7, 1, 3, 30, 0, NONE}, {2, 10, 450, 0, 0, 0, 0, 0}, {6, 999, 999, 1, 0, 0, 0, 1}};
         int[][] then = {{3, 12, 7, 1, 2, 30, 3, NONE}, {2, 10, 450, 0, 2, 20, 0, NONE}, {6, 999, 999, 1, 0, 0, 0, 0}};
         tellings("before", x, before);
@@ -603,13 +587,14 @@ public final class DocumentPromisesTest {
     // ---- Promises 23 and 24, and what is not promised
 
     private void image() {
-        says("Image k (0 .. 2) is all that is told (the tape, the FAULT, too), as it is now: true; false for another k.");
-        TicketsDrawn x = Halls.amidst();
-        for (int k = 0; k < 3; k++) {
-            int number = k;
-            changes("image()", x, () -> due("image " + number, true, x.image(number)));
+        says("Image k (0 .. 2) is all that is told (the tape, the FAULT, too), as it is now: true;"
+            + " false for another k.");
+        for (int k : new int[] {0, 1, 2}) {
+            TicketsDrawn x = Halls.amidst();
+            changes("image()", x, () -> due("image " + k, true, x.image(k)));
         }
         for (int k : new int[] {-1, 3, LOW, HIGH}) {
+            TicketsDrawn x = Halls.amidst();
             changes("no image " + k, x, () -> due("no image " + k, false, x.image(k)));
         }
         for (int k = 0; k < 3; k++) {
@@ -704,10 +689,11 @@ public final class DocumentPromisesTest {
 
     private void again() {
         says("All that is as image k has it: true; false if there is none such.");
-        TicketsDrawn x = Halls.amidst();
         for (int k : new int[] {1, -1, 3, LOW, HIGH}) {
-            changes("none such, " + k, x, () -> due("none such, " + k, false, x.again(k)));
+            TicketsDrawn without = Halls.amidst();
+            changes("none such, " + k, without, () -> due("none such, " + k, false, without.again(k)));
         }
+        TicketsDrawn x = Halls.amidst();
         due("image 0", true, x.again(0));
         Check.same("it was taken of a new object", Told.looked(new TicketsDrawn()), Told.looked(x));
         due("image 2 is still there", true, x.again(2));
@@ -722,8 +708,8 @@ public final class DocumentPromisesTest {
     }
 
     private void notPromised() {
-        says("How the state is held inside the object is free, as are the speed of each call, the text of toString and the"
-            + " behaviour of equals and hashCode.");
+        says("How the state is held inside the object is free, as are the speed of each call, the text of toString and"
+            + " the behaviour of equals and hashCode.");
         says("Use of one object from several threads at once is not promised to be safe.");
         says("Nothing is promised beyond the answers and state changes described above, and nothing about an object"
             + " after its 512th call.");

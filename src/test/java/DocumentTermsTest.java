@@ -1,3 +1,4 @@
+import java.io.IOException;
 import java.lang.reflect.Method;
 import java.lang.reflect.Modifier;
 import java.lang.reflect.Parameter;
@@ -5,19 +6,15 @@ import java.util.ArrayList;
 import java.util.List;
 
 /** The document from its first line to its constants: each sentence quoted, and what it says tried behind it. */
-public final class DocumentTermsTest {
+public final class DocumentTermsTest extends Document {
     private static final int NONE = TicketsDrawn.NONE;
 
-    private final Document document;
-    private String quoted = "";
-
-    private DocumentTermsTest(Document document) {
-        this.document = document;
+    private DocumentTermsTest() throws IOException {
+        super("# TicketsDrawn", "## Promise 1: A new object");
     }
 
     public static void main(String[] args) throws Exception {
-        Document document = Document.part("# TicketsDrawn", "## Promise 1: A new object");
-        DocumentTermsTest test = new DocumentTermsTest(document);
+        DocumentTermsTest test = new DocumentTermsTest();
         test.whatItIs();
         publicFace();
         test.rowsAndAsks();
@@ -36,25 +33,8 @@ public final class DocumentTermsTest {
         test.faults();
         test.doors();
         test.constants();
-        document.ends();
+        test.allIsQuoted();
         Check.finish("DocumentTermsTest");
-    }
-
-    private void says(String quote) {
-        document.says(quote);
-        quoted = quote;
-    }
-
-    private void due(String what, long want, long got) {
-        Check.due(quoted + " " + what, want, got);
-    }
-
-    private void due(String what, boolean want, boolean got) {
-        Check.due(quoted + " " + what, want, got);
-    }
-
-    private void due(String what, String want, String got) {
-        Check.due(quoted + " " + what, want, got);
     }
 
     /** Who sits where by first come. */
@@ -620,11 +600,17 @@ public final class DocumentTermsTest {
         return x.tell(0, 6);
     }
 
+    private void refundUnless(boolean holds, String test) {
+        due(test, holds ? 0 : 200, refund("if " + test + ":none;", 1));
+        due("not " + test, holds ? 200 : 0, refund("if not " + test + ":none;", 1));
+    }
+
     private void whichLineTells() {
         says("The first LINE whose TESTS all hold tells: part: that, whole: 100, none: 0; 100 if none does.");
         String[] texts = {"part 7;", "whole;", "none;", "", "if row=0:none;", "if row=0:none;part 9;",
             "if row=1:part 3;part 9;", "if row=1 and days=29:part 3;part 9;", "if row=2 and days=30:part 3;part 9;",
-            "if row=1 and days=30 and size=4 and price=200:part 3;", "part 2;part 3;whole;", "if not row=1:none;part 1;",
+            "if row=1 and days=30 and size=4 and price=200:part 3;", "part 2;part 3;whole;",
+            "if not row=1:none;part 1;",
             "if not row=0:none;part 1;", "if row=1 and not days>30 and not size<4 and not price=1:part 40;",
             "if row=0:none;".repeat(11) + "if row<2 and days<31 and size<5 and price>199:part 45;",
             "if row=0:none;".repeat(11) + "if not row=0 and not days<9 and not size=1 and not price>200:part 35;"};
@@ -637,9 +623,9 @@ public final class DocumentTermsTest {
         for (int k = 0; k < 5; k++) {
             for (int number = values[k] - 1; number <= values[k] + 1; number++) {
                 int sign = Integer.compare(values[k], number);
-                due(facts[k] + "<" + number, sign < 0 ? 0 : 200, refund("if " + facts[k] + "<" + number + ":none;", 1));
-                due(facts[k] + "=" + number, sign == 0 ? 0 : 200, refund("if " + facts[k] + "=" + number + ":none;", 1));
-                due(facts[k] + ">" + number, sign > 0 ? 0 : 200, refund("if " + facts[k] + ">" + number + ":none;", 1));
+                refundUnless(sign < 0, facts[k] + "<" + number);
+                refundUnless(sign == 0, facts[k] + "=" + number);
+                refundUnless(sign > 0, facts[k] + ">" + number);
             }
         }
         says("(size: the ASK's SIZE; back: how many are GIVEN BACK at once.)");
@@ -668,8 +654,8 @@ public final class DocumentTermsTest {
         fault(1, 5, "part 1000;");
         fault(1, 9, "if days< 12345:none;?");
         // What would be a text again from there on does not count, nor does a later FAULT.
-        for (String text : new String[] {"if row=1 |none;?", "part |none;?", "part |;?", "if |none;?", "if row=|:none;?",
-            "if row|:none;?", "if row=1:|;?", "none |none;?", "none;|and row=1:none;?"}) {
+        for (String text : new String[] {"if row=1 |none;?", "part |none;?", "part |;?", "if |none;?",
+            "if row=|:none;?", "if row|:none;?", "if row=1:|;?", "none |none;?", "none;|and row=1:none;?"}) {
             fault(1, text.indexOf('|'), text.replace("|", ""));
         }
         fault(1, 0, ";".repeat(300));
